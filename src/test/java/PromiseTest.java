@@ -430,6 +430,15 @@ public final class PromiseTest {
         Check.due("6: six acks", 6, () -> late.told(2));
         turns("6: the least mark first", late, NONE, 7, 7, 7, 8, 8, 8, 0);
         Check.due("6: exact", true, () -> late.exact(1));
+        BarrierMarks stopped = chain(1);
+        stopped.finish(0);
+        turns("6: end taken", stopped, 0, 3);
+        stopped.mark();
+        stopped.mark();
+        stopped.giveUp(0);
+        turns("6: ends", stopped, 0, 6);
+        Check.due("6: not for one that was given up", STATE, () -> stopped.kept(0, 0));
+        Check.due("6: one ack", 1, () -> stopped.told(2));
     }
 
     private static void turnKeeper() {
@@ -627,23 +636,26 @@ public final class PromiseTest {
         turns("11", b, NONE, 7, 7, 8);
         b.send(0, 2);
         b.send(0, 3);
+        b.send(0, 4);
         b.send(1, 12);
         b.mark();
-        turns("11", b, 0, 1, 1, 2, 4);
+        turns("11", b, 0, 1, 1, 1, 2, 4);
         turns("11", b, 1, 1, 2, 4);
-        turns("11", b, 2, 1, 1, 1, 2);
+        turns("11: it leaves a row and holds the other", b, 2, 1, 1, 1, 2);
+        Check.due("11: held", 1, () -> b.held(3));
+        Check.due("11: a row waits", 0, () -> b.kind(2, 0));
         b.mark();
         Check.due("11: below", BOUNDS, () -> b.restore(-1));
         Check.due("11: above", BOUNDS, () -> b.restore(3));
         Check.due("11: begun", STATE, () -> b.restore(1));
-        Check.due("11: rows that come anew", 3, () -> b.restore(0));
+        Check.due("11: rows that come anew", 4, () -> b.restore(0));
         Check.due("11: state 0", 1, () -> b.state(0));
         Check.due("11: state 1", 21, () -> b.state(1));
         Check.due("11: state 2", 3 + 31 + 34, () -> b.state(2));
         Check.due("11: rows 2", 3, () -> b.task(2, 0));
         Check.due("11: empty", 0, () -> b.waiting(2));
         Check.due("11: empty", 0, () -> b.waiting(3));
-        Check.due("11: source 0", 2, () -> b.waiting(0));
+        Check.due("11: source 0", 3, () -> b.waiting(0));
         Check.due("11: source 1", 1, () -> b.waiting(1));
         for (int c = 0; c < 4; c++) {
             int channel = c;
@@ -654,13 +666,13 @@ public final class PromiseTest {
         Check.due("11: no ack waits", 0, () -> b.told(2));
         Check.due("11: none is begun", 0, () -> b.told(3));
         Check.due("11: given up", STATE, () -> b.restore(1));
-        turns("11: the rows come anew, no barrier with them", b, 0, 1, 1, 0);
+        turns("11: the rows come anew, no barrier with them", b, 0, 1, 1, 1, 0);
         turns("11: the rows come anew, no barrier with them", b, 1, 1, 0);
-        turns("11: and on", b, 2, 1, 1, 1, 0);
-        Check.due("11: as before", 3 + 6 + 9 + 31 + 34 + 37, () -> b.state(2));
+        turns("11: and on", b, 2, 1, 1, 1, 1, 0);
+        Check.due("11: as before", 3 + 6 + 9 + 12 + 31 + 34 + 37, () -> b.state(2));
         b.finish(0);
-        Check.due("11: once more", 3, () -> b.restore(0));
-        turns("11: with the end", b, 0, 1, 1, 3, 6);
+        Check.due("11: once more", 4, () -> b.restore(0));
+        turns("11: with the end", b, 0, 1, 1, 1, 3, 6);
         restoreLooksFromLeast();
     }
 
@@ -865,6 +877,9 @@ public final class PromiseTest {
         Check.due("20: let go", NONE, () -> b.held(0));
         turns("20", b, 0, 2);
         Check.due("20: the second", 1, () -> b.held(0));
+        b.mark();
+        b.giveUp(2);
+        Check.due("20: another is given up", 1, () -> b.held(0));
         b.giveUp(1);
         Check.due("20: given up", NONE, () -> b.held(0));
     }
