@@ -36,7 +36,6 @@ public final class PromiseTest {
         held();
         waitingKindValue();
         told();
-        wrongCallsChangeNothing();
         Check.end("PromiseTest");
     }
 
@@ -48,25 +47,6 @@ public final class PromiseTest {
 
     private static void keeps(String name, BarrierMarks b, int task) {
         turns(name, b, task, 2, 4);
-    }
-
-    /** Outside to 0, and so on to the last task. */
-    private static BarrierMarks chain(int tasks) {
-        BarrierMarks b = new BarrierMarks(tasks);
-        for (int t = 0; t < tasks; t++) {
-            b.channel(t - 1, t);
-        }
-        return b;
-    }
-
-    /** Sources 0 and 1 lead to tasks 0 and 1, channels 2 and 3 from these to task 2. */
-    private static BarrierMarks join() {
-        BarrierMarks b = new BarrierMarks(3);
-        b.channel(NONE, 0);
-        b.channel(NONE, 1);
-        b.channel(0, 2);
-        b.channel(1, 2);
-        return b;
     }
 
     private static void newObject() {
@@ -122,11 +102,11 @@ public final class PromiseTest {
         Check.due("2: state ahead of ring", STATE, () -> b.channel(1, 0));
         Check.due("2: bounds ahead of state", BOUNDS, () -> b.channel(2, 0));
         Check.due("2: sixteen", 16, () -> b.told(0));
-        BarrierMarks sent = chain(2);
+        BarrierMarks sent = Webs.chain(2);
         sent.send(0, 1);
-        BarrierMarks finished = chain(2);
+        BarrierMarks finished = Webs.chain(2);
         finished.finish(0);
-        BarrierMarks marked = chain(2);
+        BarrierMarks marked = Webs.chain(2);
         marked.mark();
         BarrierMarks[] closed = {sent, finished, marked};
         for (BarrierMarks each : closed) {
@@ -134,14 +114,14 @@ public final class PromiseTest {
             Check.due("2: closed, and a ring", STATE, () -> each.channel(1, 0));
             Check.due("2: closed, and no task", BOUNDS, () -> each.channel(NONE, 2));
         }
-        BarrierMarks refused = chain(2);
+        BarrierMarks refused = Webs.chain(2);
         Check.due("2: a send that throws", STATE, () -> refused.send(1, 5));
         Check.due("2: a finish that throws", STATE, () -> refused.finish(1));
         Check.due("2: leaves it open", 2, () -> refused.channel(NONE, 1));
     }
 
     private static void send() {
-        BarrierMarks b = chain(2);
+        BarrierMarks b = Webs.chain(2);
         Check.due("3: no channel", BOUNDS, () -> b.send(2, 1));
         Check.due("3: outside", BOUNDS, () -> b.send(NONE, 1));
         Check.due("3: no source", STATE, () -> b.send(1, 1));
@@ -153,18 +133,18 @@ public final class PromiseTest {
         Check.due("3: two hundred wait", 200, () -> b.waiting(0));
         Check.due("3: taken", 1, () -> b.turn(0));
         Check.due("3: a row that was taken still counts", STATE, () -> b.send(0, 1));
-        BarrierMarks c = chain(1);
+        BarrierMarks c = Webs.chain(1);
         c.send(0, 7);
         c.finish(0);
         Check.due("3: behind an end", STATE, () -> c.send(0, 1));
-        BarrierMarks two = join();
+        BarrierMarks two = Webs.join();
         Check.due("3: of one source", 1, () -> two.send(0, 1));
         Check.due("3: of the other", 1, () -> two.send(1, 1));
         Check.due("3: of the one again", 2, () -> two.send(0, 1));
     }
 
     private static void finish() {
-        BarrierMarks b = chain(2);
+        BarrierMarks b = Webs.chain(2);
         Check.due("4: no channel", BOUNDS, () -> b.finish(2));
         Check.due("4: outside", BOUNDS, () -> b.finish(NONE));
         Check.due("4: no source", STATE, () -> b.finish(1));
@@ -174,7 +154,7 @@ public final class PromiseTest {
         Check.due("4: again", STATE, () -> b.finish(0));
         turns("4: rows and the end", b, 0, 1, 1, 3, 6, 0);
         Check.due("4: when all was taken", STATE, () -> b.finish(0));
-        BarrierMarks full = chain(1);
+        BarrierMarks full = Webs.chain(1);
         for (int i = 0; i < 200; i++) {
             full.send(0, i);
         }
@@ -182,7 +162,7 @@ public final class PromiseTest {
     }
 
     private static void mark() {
-        BarrierMarks b = chain(2);
+        BarrierMarks b = Webs.chain(2);
         Check.due("5: first", 0, b::mark);
         Check.due("5: second", 1, b::mark);
         Check.due("5: third", 2, b::mark);
@@ -206,7 +186,7 @@ public final class PromiseTest {
     }
 
     private static void markLimit() {
-        BarrierMarks b = chain(1);
+        BarrierMarks b = Webs.chain(1);
         for (int m = 0; m < 40; m++) {
             int number = m;
             Check.due("5: mark " + m, number, b::mark);
@@ -218,7 +198,7 @@ public final class PromiseTest {
     }
 
     private static void markPlaces() {
-        BarrierMarks b = chain(1);
+        BarrierMarks b = Webs.chain(1);
         b.send(0, 1);
         b.mark();
         b.mark();
@@ -229,13 +209,13 @@ public final class PromiseTest {
         Check.due("5: first kept", 1, () -> b.kept(0, 0));
         Check.due("5: second kept", 1, () -> b.kept(1, 0));
         Check.due("5: third kept", 3, () -> b.kept(2, 0));
-        BarrierMarks dropped = chain(1);
+        BarrierMarks dropped = Webs.chain(1);
         dropped.mark();
         dropped.mark();
         dropped.giveUp(0);
         turns("5: only begun marks send", dropped, 0, 2);
         Check.due("5: of the second", 1, () -> dropped.held(0));
-        BarrierMarks ended = join();
+        BarrierMarks ended = Webs.join();
         ended.finish(0);
         turns("5: the end was taken", ended, 0, 3);
         ended.mark();
@@ -344,7 +324,7 @@ public final class PromiseTest {
     }
 
     private static void turnBarriers() {
-        BarrierMarks b = join();
+        BarrierMarks b = Webs.join();
         b.send(0, 1);
         b.send(1, 10);
         b.mark();
@@ -363,7 +343,7 @@ public final class PromiseTest {
         Check.due("6: kept what is ahead", 3 * 1 + 0 + 3 * 10 + 1, () -> b.kept(0, 2));
         Check.due("6: the state has all", 3 + 6 + 31 + 61, () -> b.state(2));
         Check.due("6: three acks", 3, () -> b.told(2));
-        BarrierMarks half = join();
+        BarrierMarks half = Webs.join();
         half.finish(0);
         half.mark();
         turns("6: barrier ahead of the end", half, 0, 2, 4, 3, 6);
@@ -376,7 +356,7 @@ public final class PromiseTest {
     }
 
     private static void turnKeepNeedsCredit() {
-        BarrierMarks b = chain(2);
+        BarrierMarks b = Webs.chain(2);
         for (int i = 0; i < 8; i++) {
             b.send(0, i);
         }
@@ -400,7 +380,7 @@ public final class PromiseTest {
     }
 
     private static void turnEnds() {
-        BarrierMarks b = join();
+        BarrierMarks b = Webs.join();
         b.send(0, 4);
         b.mark();
         b.mark();
@@ -413,7 +393,7 @@ public final class PromiseTest {
         turns("6: task 1", b, 1, 2, 4, 2, 4, 3, 6);
         turns("6: task 2", b, 2, 1, 2, 2, 4, 2, 2, 4, 3, 3, 6, 0);
         turns("6: six acks", b, NONE, 7, 7, 7, 7, 8, 8, 0);
-        BarrierMarks late = chain(2);
+        BarrierMarks late = Webs.chain(2);
         late.send(0, 6);
         late.finish(0);
         turns("6: not ended yet", late, 0, 1, 3);
@@ -430,7 +410,7 @@ public final class PromiseTest {
         Check.due("6: six acks", 6, () -> late.told(2));
         turns("6: the least mark first", late, NONE, 7, 7, 7, 8, 8, 8, 0);
         Check.due("6: exact", true, () -> late.exact(1));
-        BarrierMarks stopped = chain(1);
+        BarrierMarks stopped = Webs.chain(1);
         stopped.finish(0);
         turns("6: end taken", stopped, 0, 3);
         stopped.mark();
@@ -442,7 +422,7 @@ public final class PromiseTest {
     }
 
     private static void turnKeeper() {
-        BarrierMarks b = chain(2);
+        BarrierMarks b = Webs.chain(2);
         b.mark();
         keeps("6", b, 0);
         turns("6: one of two", b, NONE, 7, 0);
@@ -463,7 +443,7 @@ public final class PromiseTest {
     }
 
     private static void marksAtOnce() {
-        BarrierMarks b = chain(2);
+        BarrierMarks b = Webs.chain(2);
         b.send(0, 1);
         b.mark();
         b.send(0, 2);
@@ -481,7 +461,7 @@ public final class PromiseTest {
     }
 
     private static void play() {
-        BarrierMarks b = chain(2);
+        BarrierMarks b = Webs.chain(2);
         Check.due("7: no turns", ARGUMENT, () -> b.play(1, 0));
         Check.due("7: fewer", ARGUMENT, () -> b.play(1, -5));
         Check.due("7: too many", ARGUMENT, () -> b.play(1, 2001));
@@ -495,8 +475,8 @@ public final class PromiseTest {
     }
 
     private static void playLikeTurns(long seed, int tasks) {
-        BarrierMarks played = chain(tasks);
-        BarrierMarks stepped = chain(tasks);
+        BarrierMarks played = Webs.chain(tasks);
+        BarrierMarks stepped = Webs.chain(tasks);
         for (int i = 0; i < 5; i++) {
             played.send(0, i * seed);
             stepped.send(0, i * seed);
@@ -522,7 +502,7 @@ public final class PromiseTest {
     }
 
     private static void giveUp() {
-        BarrierMarks b = join();
+        BarrierMarks b = Webs.join();
         Check.due("8: no mark", BOUNDS, () -> b.giveUp(0));
         b.mark();
         b.mark();
@@ -556,7 +536,7 @@ public final class PromiseTest {
     }
 
     private static void fails() {
-        BarrierMarks b = join();
+        BarrierMarks b = Webs.join();
         Check.due("9: no mark", BOUNDS, () -> { b.fails(0, 0); return 0; });
         b.mark();
         b.mark();
@@ -577,7 +557,7 @@ public final class PromiseTest {
         Check.due("9: none is held", NONE, () -> b.held(1));
         turns("9: the first goes on", b, 2, 2, 2, 4);
         turns("9: complete", b, NONE, 7, 7, 8);
-        BarrierMarks ends = chain(1);
+        BarrierMarks ends = Webs.chain(1);
         ends.finish(0);
         turns("9: end taken", ends, 0, 3);
         ends.mark();
@@ -586,7 +566,7 @@ public final class PromiseTest {
         Check.due("9: it kept", 0, () -> ends.kept(0, 0));
         ends.mark();
         Check.due("9: nor when it has ended", STATE, () -> { ends.fails(0, 1); return 0; });
-        BarrierMarks full = chain(2);
+        BarrierMarks full = Webs.chain(2);
         for (int i = 0; i < 8; i++) {
             full.send(0, i);
         }
@@ -598,7 +578,7 @@ public final class PromiseTest {
     }
 
     private static void again() {
-        BarrierMarks b = chain(2);
+        BarrierMarks b = Webs.chain(2);
         Check.due("10: no mark", BOUNDS, () -> b.again(0, 0));
         b.mark();
         Check.due("10: no task", BOUNDS, () -> b.again(0, 2));
@@ -623,7 +603,7 @@ public final class PromiseTest {
     }
 
     private static void restore() {
-        BarrierMarks b = join();
+        BarrierMarks b = Webs.join();
         Check.due("11: no mark", BOUNDS, () -> b.restore(0));
         b.send(0, 1);
         b.send(1, 10);
@@ -693,7 +673,7 @@ public final class PromiseTest {
     }
 
     private static void restoreEnded() {
-        BarrierMarks b = join();
+        BarrierMarks b = Webs.join();
         b.send(0, 5);
         b.finish(0);
         turns("11: task 0 ends", b, 0, 1, 3, 6);
@@ -726,7 +706,7 @@ public final class PromiseTest {
         turns("11: no other is ended, so the end comes anew", late, 0, 3, 0);
         late.finish(1);
         turns("11: and the other", late, 0, 3, 6);
-        BarrierMarks ends = chain(1);
+        BarrierMarks ends = Webs.chain(1);
         ends.finish(0);
         turns("11: end taken", ends, 0, 3);
         ends.mark();
@@ -737,7 +717,7 @@ public final class PromiseTest {
     }
 
     private static void stateAndTask() {
-        BarrierMarks b = chain(2);
+        BarrierMarks b = Webs.chain(2);
         Check.due("12: below", BOUNDS, () -> b.state(-1));
         Check.due("12: above", BOUNDS, () -> b.state(2));
         Check.due("13: below", BOUNDS, () -> b.task(-1, 0));
@@ -762,7 +742,7 @@ public final class PromiseTest {
     }
 
     private static void kept() {
-        BarrierMarks b = chain(2);
+        BarrierMarks b = Webs.chain(2);
         Check.due("14: no mark", BOUNDS, () -> b.kept(0, 0));
         Check.due("15: no mark", BOUNDS, () -> b.keptRows(0, 0));
         b.send(0, 5);
@@ -787,7 +767,7 @@ public final class PromiseTest {
     }
 
     private static void position() {
-        BarrierMarks b = join();
+        BarrierMarks b = Webs.join();
         Check.due("16: no mark", BOUNDS, () -> b.position(0, 0));
         b.send(0, 5);
         b.mark();
@@ -864,7 +844,7 @@ public final class PromiseTest {
     }
 
     private static void held() {
-        BarrierMarks b = chain(1);
+        BarrierMarks b = Webs.chain(1);
         Check.due("20: none", NONE, () -> b.held(0));
         Check.due("20: below", BOUNDS, () -> b.held(-1));
         Check.due("20: above", BOUNDS, () -> b.held(1));
@@ -885,7 +865,7 @@ public final class PromiseTest {
     }
 
     private static void waitingKindValue() {
-        BarrierMarks b = chain(2);
+        BarrierMarks b = Webs.chain(2);
         Check.due("21: below", BOUNDS, () -> b.waiting(-1));
         Check.due("21: above", BOUNDS, () -> b.waiting(2));
         Check.due("22: empty", BOUNDS, () -> b.kind(1, 0));
@@ -924,7 +904,7 @@ public final class PromiseTest {
     }
 
     private static void told() {
-        BarrierMarks b = join();
+        BarrierMarks b = Webs.join();
         Check.due("24: channels", 4, () -> b.told(0));
         b.mark();
         b.mark();
@@ -938,26 +918,5 @@ public final class PromiseTest {
         for (int what : others) {
             Check.due("24: " + what, ARGUMENT, () -> b.told(what));
         }
-    }
-
-    private static void wrongCallsChangeNothing() {
-        BarrierMarks b = join();
-        b.send(0, 1);
-        b.mark();
-        b.mark();
-        b.mark();
-        turns("wrong calls", b, 0, 1, 2, 4);
-        String before = Shown.of(b);
-        Check.due("state ahead", STATE, () -> b.channel(NONE, 0));
-        Check.due("mark", STATE, b::mark);
-        Check.due("send", STATE, () -> b.send(2, 1));
-        Check.due("finish", STATE, () -> b.finish(2));
-        Check.due("turn", BOUNDS, () -> b.turn(3));
-        Check.due("play", ARGUMENT, () -> b.play(1, 2001));
-        Check.due("giveUp", BOUNDS, () -> b.giveUp(3));
-        Check.due("fails", STATE, () -> { b.fails(0, 0); return 0; });
-        Check.due("again", STATE, () -> b.again(0, 1));
-        Check.due("restore", STATE, () -> b.restore(0));
-        Check.due("all is as it was", before, () -> Shown.of(b));
     }
 }

@@ -1,48 +1,54 @@
-/** All that an object tells of itself, in one text. */
+/** What an object tells of itself, in texts: in parts, since an object is used for 512 calls at most. */
 final class Shown {
     private Shown() {
     }
 
-    static String of(BarrierMarks b) {
-        StringBuilder text = new StringBuilder();
+    static String tasks(BarrierMarks b) {
+        Text text = new Text();
         for (int what = 0; what < 4; what++) {
             int each = what;
-            text.append(Check.told(() -> b.told(each))).append(' ');
+            text.add(() -> b.told(each));
         }
-        for (int t = 0; t < 9; t++) {
+        int count = Webs.taskCount(b);
+        for (int t = 0; t < count; t++) {
             int task = t;
-            text.append("\ntask ").append(t).append(": ").append(Check.told(() -> b.state(task)))
-                .append(' ').append(Check.told(() -> b.task(task, 0)))
-                .append(' ').append(Check.told(() -> b.task(task, 1)));
-        }
-        for (int c = 0; c <= b.told(0); c++) {
-            int channel = c;
-            text.append("\nchannel ").append(c).append(": ").append(Check.told(() -> b.held(channel)))
-                .append(' ').append(Check.told(() -> b.waiting(channel)));
-            for (int k = 0; k < 10; k++) {
-                int at = k;
-                text.append(' ').append(Check.told(() -> b.kind(channel, at)))
-                    .append('/').append(Check.told(() -> b.value(channel, at)));
-            }
-        }
-        for (int m = 0; m <= b.told(1); m++) {
-            showMark(b, m, text);
+            text.line("task " + t).add(() -> b.state(task)).add(() -> b.task(task, 0)).add(() -> b.task(task, 1));
         }
         return text.toString();
     }
 
-    private static void showMark(BarrierMarks b, int mark, StringBuilder text) {
-        text.append("\nmark ").append(mark).append(": ").append(Check.told(() -> b.condition(mark)))
-            .append(' ').append(Check.told(() -> b.acknowledged(mark)))
-            .append(' ').append(Check.told(() -> b.exact(mark)));
-        for (int t = 0; t < 9; t++) {
-            int task = t;
-            text.append(' ').append(Check.told(() -> b.kept(mark, task)))
-                .append('/').append(Check.told(() -> b.keptRows(mark, task)));
-        }
-        for (int c = 0; c < 17; c++) {
+    static String channels(BarrierMarks b) {
+        Text text = new Text();
+        int count = b.told(0);
+        for (int c = 0; c < count; c++) {
             int channel = c;
-            text.append(' ').append(Check.told(() -> b.position(mark, channel)));
+            int waiting = b.waiting(c);
+            text.line("channel " + c).add(() -> b.held(channel)).add(() -> waiting);
+            for (int k = 0; k < waiting && k < 9; k++) {
+                int at = k;
+                text.add(() -> b.kind(channel, at)).add(() -> b.value(channel, at));
+            }
         }
+        return text.toString();
+    }
+
+    static String marks(BarrierMarks b) {
+        Text text = new Text();
+        int count = b.told(1);
+        int tasks = Webs.taskCount(b);
+        int channels = b.told(0);
+        for (int m = 0; m < count; m++) {
+            int mark = m;
+            text.line("mark " + m).add(() -> b.condition(mark)).add(() -> b.acknowledged(mark)).add(() -> b.exact(mark));
+            for (int t = 0; t < tasks; t++) {
+                int task = t;
+                text.add(() -> b.kept(mark, task)).add(() -> b.keptRows(mark, task));
+            }
+            for (int c = 0; c < channels; c++) {
+                int channel = c;
+                text.add(() -> b.position(mark, channel));
+            }
+        }
+        return text.toString();
     }
 }
