@@ -12,7 +12,9 @@ final class Later {
         int channels = b.told(0);
         for (int c = 0; c < channels; c++) {
             int channel = c;
-            text.line("source " + c).add(() -> b.send(channel, 100 + channel)).add(() -> b.send(channel, 200 + channel));
+            text.line("source " + c)
+                .add(() -> b.send(channel, 100 + channel))
+                .add(() -> b.send(channel, 200 + channel));
         }
         text.line("mark").add(b::mark);
         eachTurns(b, tasks, text);

@@ -26,6 +26,8 @@ public final class MarkEdgeTest {
         againHowManyWait();
         againTwoHundred();
         firstAcksNeedNoRoom();
+        acksAsManyAsCanWait();
+        acksRound();
         restoreBounds();
         restoreNotComplete();
         restoreStates();
@@ -250,6 +252,33 @@ public final class MarkEdgeTest {
         Edge.at("10: a mark begins though 200 wait", Past.of(8).marks(1).again(0, 7, 192).marks(2))
             .leaves(216, b -> b.told(2))
             .turns(NONE, "77777778" + "7".repeat(192) + "77777778" + "77777778" + "0");
+    }
+
+    /** 200 and those of 39 marks more. */
+    private static void acksAsManyAsCanWait() {
+        Past most = Past.of(8).marks(1).again(0, 7, 192);
+        for (int m = 0; m < 39; m++) {
+            most = most.giveUp(m).marks(1);
+        }
+        Edge.at("10: acks wait, as many as there can be", most)
+            .leaves(512, b -> b.told(2))
+            .leaves(0, b -> b.acknowledged(39))
+            .refuses(STATE, b -> b.again(39, 0));
+        Edge.at("10: the last of them are taken too", most.plays(3))
+            .leaves(0, b -> b.told(2))
+            .leaves(8, b -> b.acknowledged(39))
+            .leaves(1, b -> b.condition(39))
+            .leaves(2, b -> b.condition(38));
+    }
+
+    /** Six hundred acks, of which never more than 200 wait. */
+    private static void acksRound() {
+        Past past = Past.of(8).marksGivenUp(20).marks(1).again(20, 0, 32).plays(2);
+        past = past.marksGivenUp(15).marks(1).again(36, 0, 72).plays(2);
+        Past last = past.marksGivenUp(1).marks(1).again(38, 0, 140).marks(1);
+        Edge.at("Terms: acks wait in a row, however many came before", last)
+            .leaves(164, b -> b.told(2))
+            .turns(NONE, "7777777777777778" + "7".repeat(140) + "77777778" + "0");
     }
 
     private static void restoreBounds() {

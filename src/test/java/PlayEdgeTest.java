@@ -48,9 +48,10 @@ public final class PlayEdgeTest {
                 }
                 BarrierMarks played = past.get();
                 int want = rows;
-                Check.due("7: rows, seed " + seed + ", " + n + " tasks", want, () -> played.play(seed, 100));
-                Check.due("7: tasks, seed " + seed + ", " + n + " tasks", Shown.tasks(stepped), () -> Shown.tasks(played));
-                Check.due("7: channels, seed " + seed + ", " + n + " tasks", Shown.channels(stepped), () -> Shown.channels(played));
+                String sentence = "7: the turn is that of the task, seed " + seed + ", " + n + " tasks";
+                Check.due(sentence + ": rows", want, () -> played.play(seed, 100));
+                Check.due(sentence + ": tasks", Shown.tasks(stepped), () -> Shown.tasks(played));
+                Check.due(sentence + ": channels", Shown.channels(stepped), () -> Shown.channels(played));
             }
         }
     }

@@ -1,5 +1,7 @@
 /** What an object tells of itself, in texts: in parts, since an object is used for 512 calls at most. */
 final class Shown {
+    private static final int LATEST_MARKS = 6;
+
     private Shown() {
     }
 
@@ -37,9 +39,12 @@ final class Shown {
         int count = b.told(1);
         int tasks = Webs.taskCount(b);
         int channels = b.told(0);
-        for (int m = 0; m < count; m++) {
+        for (int m = Math.max(0, count - LATEST_MARKS); m < count; m++) {
             int mark = m;
-            text.line("mark " + m).add(() -> b.condition(mark)).add(() -> b.acknowledged(mark)).add(() -> b.exact(mark));
+            text.line("mark " + m)
+                .add(() -> b.condition(mark))
+                .add(() -> b.acknowledged(mark))
+                .add(() -> b.exact(mark));
             for (int t = 0; t < tasks; t++) {
                 int task = t;
                 text.add(() -> b.kept(mark, task)).add(() -> b.keptRows(mark, task));
