@@ -1,5 +1,9 @@
 /** Ways to go on with an object, so that what it does not tell at once shows in later answers. */
 final class Later {
+    private interface PairCall {
+        Object answer(int mark, int task);
+    }
+
     private Later() {
     }
 
@@ -51,37 +55,35 @@ final class Later {
 
     static String fails(BarrierMarks b) {
         Text text = new Text();
-        int marks = b.told(1);
-        int tasks = Webs.taskCount(b);
-        for (int m = Math.max(0, marks - 3); m < marks; m++) {
-            for (int t = 0; t < tasks; t++) {
-                int mark = m;
-                int task = t;
-                text.line("task " + t + ", mark " + m).add(() -> {
-                    b.fails(task, mark);
-                    return "told";
-                });
-            }
-        }
+        eachPair(b, text, (mark, task) -> {
+            b.fails(task, mark);
+            return "told";
+        });
         text.line("play").add(() -> b.play(8, 500));
         return text + Shown.tasks(b);
     }
 
     static String sendsAgain(BarrierMarks b) {
         Text text = new Text();
+        eachPair(b, text, b::again);
+        text.line("keeper");
+        for (int i = 0; i < 20; i++) {
+            text.add(() -> b.turn(BarrierMarks.NONE));
+        }
+        return text + Shown.tasks(b);
+    }
+
+    /** Of each task and the three latest marks, since those are the ones that may well be begun. */
+    private static void eachPair(BarrierMarks b, Text text, PairCall call) {
         int marks = b.told(1);
         int tasks = Webs.taskCount(b);
         for (int m = Math.max(0, marks - 3); m < marks; m++) {
             for (int t = 0; t < tasks; t++) {
                 int mark = m;
                 int task = t;
-                text.line("mark " + m + ", task " + t).add(() -> b.again(mark, task));
+                text.line("mark " + m + ", task " + t).add(() -> call.answer(mark, task));
             }
         }
-        for (int i = 0; i < 20; i++) {
-            text.add(() -> b.turn(BarrierMarks.NONE));
-        }
-        return text + Shown.tasks(b);
     }
 
     private static void eachTurns(BarrierMarks b, int tasks, Text text) {

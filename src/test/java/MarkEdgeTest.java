@@ -18,6 +18,7 @@ public final class MarkEdgeTest {
         failsToldTwice();
         failsForThatMarkAndTask();
         failsInsteadOfKeeping();
+        failsAndAllOfItGoes();
         failsWithoutCredit();
         failsNotWhenItEnds();
         againBounds();
@@ -154,6 +155,23 @@ public final class MarkEdgeTest {
         Edge.at("Terms: none is held for it", failed).leaves(NONE, b -> b.held(0));
         Edge.at("Terms: it goes on", failed.rows(0, 1)).turns(0, "10");
         Edge.at("Terms: not before it keeps", Past.fan(2).marks(1).fails(0, 0)).turns(0, "2250");
+    }
+
+    private static void failsAndAllOfItGoes() {
+        // Task 0 has kept for both marks, task 1 has only to keep for the first.
+        Past ahead = Past.join().marks(2).fails(1, 0).turns(0, 4).turns(1, 1);
+        Edge.at("Terms: its barriers go from other channels", ahead.turns(1, 1))
+            .leaves(1, b -> b.waiting(2))
+            .leaves(1, b -> b.value(2, 0));
+        Edge.at("Terms: a channel of another task was held", ahead.turns(2, 1)).leaves(0, b -> b.held(2));
+        Edge.at("Terms: none is held for it, of another task", ahead.turns(2, 1).turns(1, 1))
+            .leaves(NONE, b -> b.held(2))
+            .turns(2, "20");
+        Edge.at("Terms: the other mark goes on", ahead.turns(1, 1).plays())
+            .leaves(2, b -> b.condition(0))
+            .leaves(1, b -> b.condition(1));
+        Edge.at("Terms: an ack that was sent is nothing then", ahead.turns(1, 1).keeper(1))
+            .leaves(0, b -> b.acknowledged(0));
     }
 
     private static void failsWithoutCredit() {
