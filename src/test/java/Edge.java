@@ -41,6 +41,12 @@ final class Edge {
         return leaves(exception, call);
     }
 
+    /** The call changes nothing, whatever it answers. */
+    Edge asks(Function<BarrierMarks, Object> call) {
+        BarrierMarks b = past.get();
+        return leaves(Check.told(() -> call.apply(b)), call);
+    }
+
     /** The call answers so, and changes nothing. */
     Edge leaves(Object want, Function<BarrierMarks, Object> call) {
         for (Function<BarrierMarks, String> look : LOOKS) {

@@ -89,7 +89,10 @@ final class Later {
     private static void eachTurns(BarrierMarks b, int tasks, Text text) {
         for (int t = 0; t < tasks; t++) {
             int task = t;
-            text.line("turns of " + t).add(() -> b.turn(task)).add(() -> b.turn(task));
+            // The sum tells from which channel a row came.
+            text.line("turns of " + t)
+                .add(() -> b.turn(task)).add(() -> b.state(task))
+                .add(() -> b.turn(task)).add(() -> b.state(task));
         }
     }
 }

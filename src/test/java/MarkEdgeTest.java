@@ -80,7 +80,8 @@ public final class MarkEdgeTest {
         Edge.at("8: all but one were taken", kept.keeper(2)).answers(2, b -> b.giveUp(0));
         Edge.at("8: one taken again is nothing", kept.keeper(1).giveUp(0).keeper(2))
             .leaves(1, b -> b.acknowledged(0));
-        Edge.at("8: one was taken twice", HALF_KEPT.again(0, 0, 1).keeper(2)).answers(1, b -> b.giveUp(0));
+        Edge.at("8: one was taken three times", Past.chain(3).marks(1).turns(0, 2).again(0, 0, 2).keeper(3))
+            .answers(1, b -> b.giveUp(0));
         Edge.at("8: of its acks, not another's", Past.chain(2).marks(2).turns(0, 2).keeper(1))
             .answers(1, b -> b.giveUp(0))
             .answers(0, b -> b.giveUp(1));
