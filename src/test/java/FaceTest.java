@@ -5,6 +5,7 @@ import java.lang.reflect.Method;
 import java.lang.reflect.Modifier;
 import java.nio.file.Files;
 import java.nio.file.Path;
+import java.util.ArrayList;
 import java.util.Arrays;
 import java.util.List;
 import java.util.TreeSet;
@@ -18,6 +19,7 @@ public final class FaceTest {
     public static void main(String[] args) throws IOException {
         face();
         namesOfPrivateMethods();
+        sizes();
         rulesOfTheSource();
         Check.end("FaceTest");
     }
@@ -77,6 +79,20 @@ public final class FaceTest {
                     .anyMatch(each -> Modifier.isPublic(each.getModifiers()) && each.getName().equals(hidden.getName()));
                 Check.due("private " + hidden.getName() + " bears a public name", false, () -> shared);
             }
+        }
+    }
+
+    /** Rule 11. */
+    private static void sizes() {
+        List<Class<?>> all = new ArrayList<>(List.of(BarrierMarks.class.getDeclaredClasses()));
+        all.add(BarrierMarks.class);
+        Check.due("at most twelve classes", true, () -> all.size() <= 12);
+        for (Class<?> each : all) {
+            long fields = Arrays.stream(each.getDeclaredFields())
+                .filter(field -> !Modifier.isStatic(field.getModifiers())).count();
+            Check.due(each.getName() + " has at most twenty fields", true, () -> fields <= 20);
+            Check.due(each.getName() + ": methods take at most seven parameters", true,
+                () -> Arrays.stream(each.getDeclaredMethods()).allMatch(method -> method.getParameterCount() <= 7));
         }
     }
 
